@@ -55,6 +55,7 @@ public final class CountersTest {
         Check.put(shop, "grid 2 2;");
         shop.load();
         check("a new text", shop, 0, 0);
+        Check.same("49 nothing was lost since", shop.levelDifference(), 0);
         shop.restore(1);
         check("the counters are part of the state", shop, 2, 1);
         shop.undo();

@@ -13,6 +13,8 @@ public final class GuessTest {
         noRoundWithAnEmptySlot();
         singlesAtOnce();
         roundsAtOnce();
+        singlesOneAfterAnother();
+        nothingOfAnotherGrid();
         narrowedToTheEnd();
         states();
         levels();
@@ -109,6 +111,40 @@ public final class GuessTest {
         Check.same("31 stuck", shop.state(), 2);
     }
 
+    private static void singlesOneAfterAnother() {
+        // three slots across, apart from each other: abc leaves slots 1 and 2, then abd leaves slot 2
+        ShopCross shop = Check.loaded("grid 3 5;block 0 1;block 1 1;block 2 1;block 0 3;block 1 3;block 2 3;"
+                + "word abc;word abd;word xbe;letter 2 0 c;letter 0 2 a;");
+        Check.same("section 3", Check.candidates(shop, 0), "abc");
+        Check.same("section 3", Check.candidates(shop, 1), "abd");
+        Check.same("section 3", Check.candidates(shop, 2), "xbe");
+        Check.same("31 solved", shop.state(), 1);
+    }
+
+    private static void nothingOfAnotherGrid() {
+        ShopCross shop = new ShopCross();
+        for (String words : new String[] {"word ab;", "word ab;word ac;word ad;"}) {
+            for (String small : new String[] {SQUARE, SQUARE + "solve 1;"}) {
+                Check.put(shop, "grid 2 6;" + words);
+                shop.load();
+                Check.same("41 six slots across have candidates", shop.candidatesLeft(), 6 * shop.wordCount());
+                Check.put(shop, small);
+                shop.load();
+                Check.same("a smaller grid", Check.view(shop), Check.view(Check.loaded(small)));
+            }
+        }
+        String most = "grid 6 6;block 2 0;block 2 1;block 0 2;block 1 2;block 4 2;block 5 2;block 3 3;block 2 4;block 2 5;";
+        Check.put(shop, most + "word ab;word ac;word abc;word abd;word ba;word ca;word cba;word dba;solve 200;");
+        shop.load();
+        Check.same("9 the most slots", shop.slotCount(), 22);
+        Check.put(shop, "grid 6 2;");
+        shop.load();
+        Check.put(shop, most);
+        shop.load();
+        Check.same("41 no words, no candidates", shop.candidatesLeft(), 0);
+        Check.same("a grid without words", Check.view(shop), Check.view(Check.loaded(most)));
+    }
+
     private static void narrowedToTheEnd() {
         ShopCross shop = Check.loaded(SQUARE);
         String[] due = {"ab ac", "ab ac", "cd bd", "cd bd"};
@@ -159,6 +195,13 @@ public final class GuessTest {
         Check.same("35 the smaller number of 4 and 4", new ShopCross().bestSlot(), 2);
         Check.same("35 the fewest candidates", Check.loaded(APART + "word abc;word abd;word xbc;word abe;letter 0 2 a;").bestSlot(), 1);
         Check.same("35 the smaller number", Check.loaded(APART + "word abc;word abd;").bestSlot(), 0);
+        StringBuilder thirty = new StringBuilder("grid 2 3;block 0 1;block 1 1;");
+        for (int i = 0; i < 30; i++) {
+            thirty.append("word ").append((char) ('a' + i % 6)).append((char) ('a' + i / 6)).append(';');
+        }
+        Check.same("28 thirty candidates", Check.loaded(thirty.toString()).candidateCount(1), 30);
+        Check.same("30 the last of thirty", Check.loaded(thirty.toString()).candidateAt(1, 29), 29);
+        Check.same("35 thirty candidates", Check.loaded(thirty.toString()).bestSlot(), 0);
         Check.same("35 solved", Check.loaded(SQUARE + "solve 1;").bestSlot(), -1);
         Check.same("35 no slots", Check.loaded("grid 2 2;block 0 0;block 1 1;").bestSlot(), -1);
         Check.same("35 stuck", Check.loaded("grid 3 2;word abc;word abd;word abe;").bestSlot(), 0);
@@ -209,6 +252,8 @@ public final class GuessTest {
         // lane leaves line and lint
         Check.same("38 lane", shop.leftAfter(3, 1), 5);
         Check.same("39 lane", shop.wouldStick(3, 1), false);
+        Check.same("39 lime, asked first", new ShopCross().wouldStick(2, 4), true);
+        Check.same("39 lime, asked after lane", shop.wouldStick(2, 4), true);
         Check.same("38 not a candidate", shop.leftAfter(3, 0), -1);
         Check.same("38 the only one", shop.leftAfter(1, 3), -1);
         Check.same("39 the only one", shop.wouldStick(1, 3), false);

@@ -16,6 +16,7 @@ public final class InputTest {
         refused();
         statementsInOrder();
         findWord();
+        cutTexts();
         Check.end("InputTest");
     }
 
@@ -161,6 +162,12 @@ public final class InputTest {
         bad("grid 2 ^x;", 1);
         bad("grid ^-2 2;", 1);
         bad("grid 2 2 ^2;", 1);
+        bad("grid 2 2^,", 1);
+        bad("grid 2 2^:word ab;", 1);
+        bad("grid 2 2;word ab^.", 1);
+        bad("grid 2 2;block 0 0^.", 1);
+        bad("grid 2 2;letter 0 0 a^.", 1);
+        bad("grid 2 2;solve 0^.", 1);
         bad("grid 2 2;^grid 2 2;", 1);
         bad("grid 2 2;^;", 1);
         bad("grid 2 2;^5;", 1);
@@ -263,6 +270,8 @@ public final class InputTest {
         Check.same("4 the first slot after back", Check.candidates(shop, 0), "abc");
         Check.same("4 solve", shop.level(), 1);
         Check.same("4 solve", shop.guessedWord(1), 0);
+        ShopCross back = Check.loaded(words + "solve 1;back;");
+        Check.same("4 back is one step alone", back.level() * 10 + back.guesses(), 1);
         Check.same("4 solve 0", Check.loaded(words + "solve 0;").level(), 0);
         Check.same("4 solve to the end", Check.loaded(words + "solve 200;").state(), 1);
         Check.same("4 a word that comes", Check.loaded(words + "guess 0 abe;word abf;").level(), 0);
@@ -278,6 +287,36 @@ public final class InputTest {
             Check.put(shop, words[i]);
             Check.same("11 " + words[i], shop.findWord(), due[i]);
             Check.same("11 the buffer does not change", shop.truncateInput(words[i].length()), words[i].length());
+        }
+    }
+
+    /** What was in the buffer behind its end is no part of the text. */
+    private static void cutTexts() {
+        ShopCross shop = new ShopCross();
+        Check.put(shop, "grid 2 2;word abcd;");
+        shop.truncateInput(15);
+        Check.argument("4 a word of one letter", () -> shop.load());
+        Check.same("5 a word of one letter", shop.errorCode(), 2);
+        Check.put(shop, "grid 2 2;solve 2000;");
+        shop.truncateInput(18);
+        Check.argument("4 no semicolon", () -> shop.load());
+        Check.same("5 no semicolon", shop.errorCode(), 1);
+        Check.same("6 no semicolon", shop.errorPosition(), 18);
+        Check.put(shop, "lintel");
+        shop.truncateInput(4);
+        Check.same("11 cut", shop.findWord(), 11);
+        for (String end : new String[] {"a", "0", ";", " "}) {
+            StringBuilder full = new StringBuilder("grid 2 2;");
+            while (full.length() < 599) {
+                full.append(' ');
+            }
+            Check.put(shop, full + end);
+            if (end.equals(" ")) {
+                Check.same("4 a full buffer", shop.load(), 0);
+            } else {
+                Check.argument("4 a full buffer", () -> shop.load());
+                Check.same("6 a full buffer", shop.errorPosition(), 599);
+            }
         }
     }
 
