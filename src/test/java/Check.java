@@ -95,6 +95,37 @@ final class Check {
         return shop;
     }
 
+    static void good(String text, int words) {
+        ShopCross shop = new ShopCross();
+        put(shop, text);
+        same("4 " + text, shop.load(), words);
+        same("5 " + text, shop.errorCode(), 0);
+        same("6 " + text, shop.errorPosition(), -1);
+    }
+
+    /** The first sign ^ stands before the token that has the error, and is not in the text. */
+    static void bad(String marked, int code) {
+        int at = marked.indexOf('^');
+        ShopCross shop = new ShopCross();
+        String before = view(shop);
+        put(shop, marked.substring(0, at) + marked.substring(at + 1));
+        argument("4 " + marked, () -> shop.load());
+        same("5 " + marked, shop.errorCode(), code);
+        same("6 " + marked, shop.errorPosition(), at);
+        same("4 the state does not change " + marked, view(shop), before);
+        argument("4 the buffer is empty " + marked, () -> shop.truncateInput(1));
+        state("4 nothing is remembered " + marked, () -> shop.undo());
+    }
+
+    /** As many statements word: 26 words of two letters from ba to bz, then some of three. */
+    static String words(int number) {
+        StringBuilder text = new StringBuilder();
+        for (int i = 0; i < number; i++) {
+            text.append("word b").append((char) ('a' + i % 26)).append(i < 26 ? "" : "c").append(';');
+        }
+        return text.toString();
+    }
+
     /** The number that addWord wants for a word. */
     static int number(String word) {
         int number = 0;
@@ -102,6 +133,12 @@ final class Check {
             number = number << 5 | (word.charAt(i) - 'a' + 1);
         }
         return number;
+    }
+
+    /** How many calls are remembered, if they are fewer than eight; the state stays as it is. */
+    static int remembered(ShopCross shop) {
+        shop.solve(1);
+        return shop.undo();
     }
 
     static String word(ShopCross shop, int word) {
@@ -142,11 +179,14 @@ final class Check {
             view.append(" guess ").append(shop.guessedSlot(level)).append('=').append(shop.guessedWord(level));
         }
         for (int slot = 0; slot < shop.slotCount(); slot++) {
-            view.append(' ').append(shop.candidateCount(slot));
+            view.append(' ').append(shop.isDown(slot)).append(shop.crossingCount(slot)).append('=').append(candidates(shop, slot));
+        }
+        for (int word = 0; word < shop.wordCount(); word++) {
+            view.append(' ').append(word(shop, word)).append(shop.prizeOf(word));
         }
         for (int y = 0; y < shop.rows(); y++) {
             for (int x = 0; x < shop.columns(); x++) {
-                view.append(shop.isBlocked(x, y) ? "#" : "." + shop.givenLetter(x, y));
+                view.append(shop.isBlocked(x, y) ? "#" : "." + shop.givenLetter(x, y) + shop.sureLetter(x, y));
             }
         }
         return view.toString();

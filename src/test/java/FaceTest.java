@@ -62,6 +62,11 @@ public final class FaceTest {
             Check.same(inside + " is static", Modifier.isStatic(inside.getModifiers()), true);
             Check.same(inside + " is private", Modifier.isPrivate(inside.getModifiers()), true);
         }
+        for (Class<?> inside : ShopCross.class.getDeclaredClasses()) {
+            for (Method method : inside.getDeclaredMethods()) {
+                Check.same(method + " bears the name of a public method", names.contains(method.getName()), false);
+            }
+        }
         Check.same("at most twelve classes", ShopCross.class.getDeclaredClasses().length < 12, true);
     }
 

@@ -125,15 +125,15 @@ public final class InputTest {
     }
 
     private static void tokens() {
-        good("grid 2 2;", 0);
-        good(" \n grid\n2  2 ; ", 0);
-        bad("grid2 2;^wordab;word\ncd;", 1);
-        good("grid2 2;word ab;word\ncd;", 2);
-        good("grid 0002 00000000000000000000000000000000000006;", 0);
-        good("grid 2 2;word word;word grid;word back;", 3);
-        good("grid 2 2;solve0;solve 0200;", 0);
-        good("grid 2 2;letter0 0a;letter 0 0 b;", 0);
-        good("grid 2 2;word ab;word ba;word bb;word aa;guess 000 ab;back;", 4);
+        Check.good("grid 2 2;", 0);
+        Check.good(" \n grid\n2  2 ; ", 0);
+        Check.bad("grid2 2;^wordab;word\ncd;", 1);
+        Check.good("grid2 2;word ab;word\ncd;", 2);
+        Check.good("grid 0002 00000000000000000000000000000000000006;", 0);
+        Check.good("grid 2 2;word word;word grid;word back;", 3);
+        Check.good("grid 2 2;solve0;solve 0200;", 0);
+        Check.good("grid 2 2;letter0 0a;letter 0 0 b;", 0);
+        Check.good("grid 2 2;word ab;word ba;word bb;word aa;guess 000 ab;back;", 4);
     }
 
     private static void allowed() {
@@ -146,91 +146,91 @@ public final class InputTest {
     }
 
     private static void notAllowed() {
-        bad("^", 1);
-        bad(" \n ^", 1);
-        bad("^;", 1);
-        bad("^word ab;", 1);
-        bad("^grids 2 2;", 1);
-        bad("^gri 2 2;", 1);
-        bad("^Grid 2 2;", 1);
-        bad("grid^", 1);
-        bad("grid 2^", 1);
-        bad("grid 2 2^", 1);
-        bad("grid 2 2 \n^", 1);
-        bad("grid^\t2 2;", 1);
-        bad("grid ^x 2;", 1);
-        bad("grid 2 ^x;", 1);
-        bad("grid ^-2 2;", 1);
-        bad("grid 2 2 ^2;", 1);
-        bad("grid 2 2^,", 1);
-        bad("grid 2 2^:word ab;", 1);
-        bad("grid 2 2;word ab^.", 1);
-        bad("grid 2 2;block 0 0^.", 1);
-        bad("grid 2 2;letter 0 0 a^.", 1);
-        bad("grid 2 2;solve 0^.", 1);
-        bad("grid 2 2;^grid 2 2;", 1);
-        bad("grid 2 2;^;", 1);
-        bad("grid 2 2;^5;", 1);
-        bad("grid 2 2;^\r", 1);
-        bad("grid 2 2;^\0", 1);
-        bad("grid 2 2;^words ab;", 1);
-        bad("grid 2 2;word ^5;", 1);
-        bad("grid 2 2;word ^;", 1);
-        bad("grid 2 2;word ^Ab;", 1);
-        bad("grid 2 2;word ab^", 1);
-        bad("grid 2 2;word ab ^cd;", 1);
-        bad("grid 2 2;word ab^5;", 1);
-        bad("grid 2 2;block ^a 0;", 1);
-        bad("grid 2 2;block 0 ^a;", 1);
-        bad("grid 2 2;block 0 0^", 1);
-        bad("grid 2 2;letter ^;", 1);
-        bad("grid 2 2;letter 0 ^;", 1);
-        bad("grid 2 2;letter 0 0^;", 1);
-        bad("grid 2 2;letter 0 0 ^ab;", 1);
-        bad("grid 2 2;letter 0 0 ^5;", 1);
-        bad("grid 2 2;letter 0 0 ^A;", 1);
-        bad("grid 2 2;letter 0 0 a ^b;", 1);
-        bad("grid 2 2;guess ^ab;", 1);
-        bad("grid 2 2;guess 0 ^0;", 1);
-        bad("grid 2 2;guess 0 ^;", 1);
-        bad("grid 2 2;solve^;", 1);
-        bad("grid 2 2;solve ^x;", 1);
-        bad("grid 2 2;solve 5^", 1);
-        bad("grid 2 2;word ab;word ba;word bb;word aa;guess 0 ab;back^", 1);
+        Check.bad("^", 1);
+        Check.bad(" \n ^", 1);
+        Check.bad("^;", 1);
+        Check.bad("^word ab;", 1);
+        Check.bad("^grids 2 2;", 1);
+        Check.bad("^gri 2 2;", 1);
+        Check.bad("^Grid 2 2;", 1);
+        Check.bad("grid^", 1);
+        Check.bad("grid 2^", 1);
+        Check.bad("grid 2 2^", 1);
+        Check.bad("grid 2 2 \n^", 1);
+        Check.bad("grid^\t2 2;", 1);
+        Check.bad("grid ^x 2;", 1);
+        Check.bad("grid 2 ^x;", 1);
+        Check.bad("grid ^-2 2;", 1);
+        Check.bad("grid 2 2 ^2;", 1);
+        Check.bad("grid 2 2^,", 1);
+        Check.bad("grid 2 2^:word ab;", 1);
+        Check.bad("grid 2 2;word ab^.", 1);
+        Check.bad("grid 2 2;block 0 0^.", 1);
+        Check.bad("grid 2 2;letter 0 0 a^.", 1);
+        Check.bad("grid 2 2;solve 0^.", 1);
+        Check.bad("grid 2 2;^grid 2 2;", 1);
+        Check.bad("grid 2 2;^;", 1);
+        Check.bad("grid 2 2;^5;", 1);
+        Check.bad("grid 2 2;^\r", 1);
+        Check.bad("grid 2 2;^\0", 1);
+        Check.bad("grid 2 2;^words ab;", 1);
+        Check.bad("grid 2 2;word ^5;", 1);
+        Check.bad("grid 2 2;word ^;", 1);
+        Check.bad("grid 2 2;word ^Ab;", 1);
+        Check.bad("grid 2 2;word ab^", 1);
+        Check.bad("grid 2 2;word ab ^cd;", 1);
+        Check.bad("grid 2 2;word ab^5;", 1);
+        Check.bad("grid 2 2;block ^a 0;", 1);
+        Check.bad("grid 2 2;block 0 ^a;", 1);
+        Check.bad("grid 2 2;block 0 0^", 1);
+        Check.bad("grid 2 2;letter ^;", 1);
+        Check.bad("grid 2 2;letter 0 ^;", 1);
+        Check.bad("grid 2 2;letter 0 0^;", 1);
+        Check.bad("grid 2 2;letter 0 0 ^ab;", 1);
+        Check.bad("grid 2 2;letter 0 0 ^5;", 1);
+        Check.bad("grid 2 2;letter 0 0 ^A;", 1);
+        Check.bad("grid 2 2;letter 0 0 a ^b;", 1);
+        Check.bad("grid 2 2;guess ^ab;", 1);
+        Check.bad("grid 2 2;guess 0 ^0;", 1);
+        Check.bad("grid 2 2;guess 0 ^;", 1);
+        Check.bad("grid 2 2;solve^;", 1);
+        Check.bad("grid 2 2;solve ^x;", 1);
+        Check.bad("grid 2 2;solve 5^", 1);
+        Check.bad("grid 2 2;word ab;word ba;word bb;word aa;guess 0 ab;back^", 1);
     }
 
     private static void outOfRange() {
         for (String number : new String[] {"0", "1", "7", "00007", "10", "4294967298", "18446744073709551618", "99999999999999999999999"}) {
-            bad("grid ^" + number + " 2;", 2);
-            bad("grid 2 ^" + number + ";", 2);
+            Check.bad("grid ^" + number + " 2;", 2);
+            Check.bad("grid 2 ^" + number + ";", 2);
         }
-        bad("grid 3 2;block ^3 0;", 2);
-        bad("grid 3 2;block 0 ^2;", 2);
-        bad("grid 3 2;block ^4294967296 0;", 2);
-        bad("grid 3 2;letter ^3 0 a;", 2);
-        bad("grid 3 2;letter 0 ^2 a;", 2);
-        bad("grid 2 2;solve ^201;", 2);
-        bad("grid 2 2;solve ^4294967296;", 2);
-        bad("grid 2 2;word ^a;", 2);
-        bad("grid 2 2;word ^abcdefg;", 2);
-        bad("grid 2 2;word ^abcdefghijklmnopqrstuvwxyzabcdefghijklmnopqrstuvwxyz", 2);
+        Check.bad("grid 3 2;block ^3 0;", 2);
+        Check.bad("grid 3 2;block 0 ^2;", 2);
+        Check.bad("grid 3 2;block ^4294967296 0;", 2);
+        Check.bad("grid 3 2;letter ^3 0 a;", 2);
+        Check.bad("grid 3 2;letter 0 ^2 a;", 2);
+        Check.bad("grid 2 2;solve ^201;", 2);
+        Check.bad("grid 2 2;solve ^4294967296;", 2);
+        Check.bad("grid 2 2;word ^a;", 2);
+        Check.bad("grid 2 2;word ^abcdefg;", 2);
+        Check.bad("grid 2 2;word ^abcdefghijklmnopqrstuvwxyzabcdefghijklmnopqrstuvwxyz", 2);
     }
 
     private static void blockedOrThere() {
-        bad("grid 2 2;block 1 0;block 1 ^0;", 3);
-        bad("grid 2 2;block 1 0;letter 1 ^0 a;", 3);
-        bad("grid 2 2;block 1 0;letter 1 ^0 ab;", 3);
-        bad("grid 2 2;word ab;word ba;word ^ab;", 3);
-        bad("grid 2 2;word ab;word abc;word ^abc", 3);
+        Check.bad("grid 2 2;block 1 0;block 1 ^0;", 3);
+        Check.bad("grid 2 2;block 1 0;letter 1 ^0 a;", 3);
+        Check.bad("grid 2 2;block 1 0;letter 1 ^0 ab;", 3);
+        Check.bad("grid 2 2;word ab;word ba;word ^ab;", 3);
+        Check.bad("grid 2 2;word ab;word abc;word ^abc", 3);
     }
 
     private static void missing() {
-        bad("grid 2 2;word ab;word bb;guess ^4 ab;", 4);
-        bad("grid 2 2;word ab;word bb;guess ^4294967296 ab;", 4);
-        bad("grid 2 2;word ab;word bb;guess 0 ^ba;", 4);
-        bad("grid 2 2;word ab;word bb;guess 0 ^a;", 4);
-        bad("grid 2 2;word ab;word bb;guess 0 ^abcdefgh;", 4);
-        bad("grid 2 2;block 0 0;block 1 1;word ab;guess ^0 ab;", 4);
+        Check.bad("grid 2 2;word ab;word bb;guess ^4 ab;", 4);
+        Check.bad("grid 2 2;word ab;word bb;guess ^4294967296 ab;", 4);
+        Check.bad("grid 2 2;word ab;word bb;guess 0 ^ba;", 4);
+        Check.bad("grid 2 2;word ab;word bb;guess 0 ^a;", 4);
+        Check.bad("grid 2 2;word ab;word bb;guess 0 ^abcdefgh;", 4);
+        Check.bad("grid 2 2;block 0 0;block 1 1;word ab;guess ^0 ab;", 4);
     }
 
     private static void tooManyWords() {
@@ -238,28 +238,28 @@ public final class InputTest {
         for (int i = 0; i < 30; i++) {
             text.append("word b").append((char) ('a' + i % 26)).append(i < 26 ? "" : "c").append(';');
         }
-        good(text.toString(), 30);
-        bad(text + "^word zz;", 5);
-        bad(text + "^word", 5);
-        bad(text + "^word ba;", 5);
-        good(text + "letter 0 0 b;solve 3;", 30);
+        Check.good(text.toString(), 30);
+        Check.bad(text + "^word zz;", 5);
+        Check.bad(text + "^word", 5);
+        Check.bad(text + "^word ba;", 5);
+        Check.good(text + "letter 0 0 b;solve 3;", 30);
     }
 
     private static void refused() {
-        bad("grid 2 2;word ab;^block 0 0;", 6);
-        bad("grid 2 2;letter 0 0 a;^block 1 1;", 6);
-        bad("grid 2 2;letter 0 0 a;^block 7 7;", 6);
-        bad("grid 2 2;^back;", 6);
-        bad("grid 2 2;^back", 6);
+        Check.bad("grid 2 2;word ab;^block 0 0;", 6);
+        Check.bad("grid 2 2;letter 0 0 a;^block 1 1;", 6);
+        Check.bad("grid 2 2;letter 0 0 a;^block 7 7;", 6);
+        Check.bad("grid 2 2;^back;", 6);
+        Check.bad("grid 2 2;^back", 6);
         String words = "grid 3 3;block 0 1;block 1 1;block 2 1;word abc;word abd;word abe;";
-        good(words + "guess 0 abc;", 3);
-        bad(words + "guess 0 abc;back;^back;", 6);
-        bad(words + "guess 0 abc;letter 0 0 a;^back;", 6);
-        bad(words + "guess 0 abc;word ab;^back;", 6);
-        bad(words + "guess 0 abc;guess 1 ^abc;", 6);
-        bad(words + "guess 0 abc;guess 0 ^abc;", 6);
-        bad(words + "guess 0 abc;guess 1 abd;guess 0 ^abc;", 6);
-        bad("grid 2 2;word ab;guess 0 ^ab;", 6);
+        Check.good(words + "guess 0 abc;", 3);
+        Check.bad(words + "guess 0 abc;back;^back;", 6);
+        Check.bad(words + "guess 0 abc;letter 0 0 a;^back;", 6);
+        Check.bad(words + "guess 0 abc;word ab;^back;", 6);
+        Check.bad(words + "guess 0 abc;guess 1 ^abc;", 6);
+        Check.bad(words + "guess 0 abc;guess 0 ^abc;", 6);
+        Check.bad(words + "guess 0 abc;guess 1 abd;guess 0 ^abc;", 6);
+        Check.bad("grid 2 2;word ab;guess 0 ^ab;", 6);
     }
 
     private static void statementsInOrder() {
@@ -318,24 +318,5 @@ public final class InputTest {
                 Check.same("6 a full buffer", shop.errorPosition(), 599);
             }
         }
-    }
-
-    private static void good(String text, int words) {
-        ShopCross shop = new ShopCross();
-        Check.put(shop, text);
-        Check.same("4 " + text, shop.load(), words);
-        Check.same("5 " + text, shop.errorCode(), 0);
-        Check.same("6 " + text, shop.errorPosition(), -1);
-    }
-
-    /** The sign ^ stands before the token that has the error, and is not in the text. */
-    private static void bad(String marked, int code) {
-        int at = marked.indexOf('^');
-        ShopCross shop = new ShopCross();
-        Check.put(shop, marked.substring(0, at) + marked.substring(at + 1));
-        Check.argument("4 " + marked, () -> shop.load());
-        Check.same("5 " + marked, shop.errorCode(), code);
-        Check.same("6 " + marked, shop.errorPosition(), at);
-        Check.same("4 the state does not change", shop.wordCount() * 10 + shop.level(), 121);
     }
 }
