@@ -509,6 +509,14 @@ public final class PromiseEdgesTest {
         Check.same("47 0 if the state is 2", stuck.supportErrors() * 10 + stuck.doubleErrors(), 0);
         stuck.step();
         Check.same("47 0 if the state is 3", stuck.supportErrors() * 10 + stuck.doubleErrors(), 0);
+        // the fifth slot of a former grid, which had the word 1 alone, does not count in a grid of four
+        ShopCross fewer = Check.loaded("grid 2 3;word ab;word ef;word cd;word ace;word bdf;");
+        Check.same("47 five slots", fewer.state() * 10 + fewer.slotCount(), 15);
+        Check.put(fewer, SQUARE + "solve 1;");
+        fewer.load();
+        Check.same("47 four slots", fewer.state() * 10 + fewer.slotCount(), 14);
+        Check.same("47 four slots", fewer.supportErrors(), 0);
+        Check.same("48 four slots", fewer.doubleErrors(), 0);
         ShopCross none = Check.loaded(ALL_BLOCKED);
         Check.same("47 no slots", none.supportErrors() + none.doubleErrors() + none.levelDifference(), 0);
     }

@@ -113,6 +113,16 @@ public final class TermsEdgesTest {
         Check.same("section 2 30 words", shop.wordCount(), 30);
         Check.state("section 2 31 words", () -> shop.addWord(Check.number("xyz")));
         Check.bad("grid 2 2;" + Check.words(30) + "^word xyz;", 5);
+        // thirty words of six letters for a slot of six cells
+        StringBuilder text = new StringBuilder(strip(6));
+        for (int i = 0; i < 30; i++) {
+            text.append("word ").append(i < 26 ? "aaaaa" : "aaaab").append((char) ('a' + i % 26)).append(';');
+        }
+        ShopCross longest = Check.loaded(text.toString());
+        Check.same("section 2 the last letter of all", longest.letterOf(29, 5), 'd');
+        Check.same("section 2 the last letter of the word before", longest.letterOf(28, 5), 'c');
+        Check.same("section 3 thirty candidates", longest.candidateCount(0) * 100 + longest.candidateAt(0, 29), 3029);
+        Check.same("section 2 the last word's prize", longest.prizeOf(29), 4 * 1 + 5 + 8);
     }
 
     private static void twoToSixLetters() {
