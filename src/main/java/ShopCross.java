@@ -692,12 +692,17 @@ public final class ShopCross {
         void copyFrom(Grid other) {
             width = other.width;
             height = other.height;
-            System.arraycopy(other.blocked, 0, blocked, 0, MAX_CELLS);
+            // System.arraycopy is kept to arrays of numbers
+            for (int cell = 0; cell < MAX_CELLS; cell++) {
+                blocked[cell] = other.blocked[cell];
+            }
             System.arraycopy(other.given, 0, given, 0, MAX_CELLS);
             slots = other.slots;
             System.arraycopy(other.first, 0, first, 0, MAX_SLOTS);
             System.arraycopy(other.size, 0, size, 0, MAX_SLOTS);
-            System.arraycopy(other.vertical, 0, vertical, 0, MAX_SLOTS);
+            for (int slot = 0; slot < MAX_SLOTS; slot++) {
+                vertical[slot] = other.vertical[slot];
+            }
             System.arraycopy(other.acrossAt, 0, acrossAt, 0, MAX_CELLS);
             System.arraycopy(other.downAt, 0, downAt, 0, MAX_CELLS);
             System.arraycopy(other.otherSlot, 0, otherSlot, 0, MAX_PLACES);

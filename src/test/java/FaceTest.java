@@ -23,6 +23,7 @@ public final class FaceTest {
         methodsOfTheDocument(Files.readString(DOCUMENT));
         String source = Files.readString(SOURCE);
         forbiddenWords(source);
+        copiedArrays(source);
         sizes(source);
         room();
         Check.end("FaceTest");
@@ -99,6 +100,18 @@ public final class FaceTest {
         for (String word : forbidden) {
             Check.same("times of " + word, Pattern.compile(word).matcher(source).results().count(), 0);
         }
+    }
+
+    /** Rule 4 names arrays of numbers: no array of booleans is copied by the library. */
+    private static void copiedArrays(String source) {
+        Matcher field = Pattern.compile("boolean\\[\\] (\\w+)").matcher(source);
+        int found = 0;
+        while (field.find()) {
+            found++;
+            Pattern copied = Pattern.compile("arraycopy\\([^;]*\\b" + field.group(1) + "\\b");
+            Check.same("copies of " + field.group(1), copied.matcher(source).results().count(), 0);
+        }
+        Check.same("arrays of booleans were found", found > 0, true);
     }
 
     /** A method begins at a line that ends with "{" after its parameters, and ends at the "}" with the same indent. */
